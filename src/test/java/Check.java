@@ -1,0 +1,78 @@
+import java.util.ArrayList;
+import java.util.List;
+
+/** What the tests share: answers that are due, windows told by a text, and all of an object that can be seen. */
+final class Check {
+    static final int BAD = PaneLight.BAD, STATE = PaneLight.STATE, FULL = PaneLight.FULL, NONE = PaneLight.NONE;
+    /** Numbers that are as told nowhere. */
+    static final int[] FAR = {Integer.MIN_VALUE, -1000, 1000, Integer.MAX_VALUE};
+
+    private int asked;
+    private int wrong;
+
+    void due(String call, long got, long want) {
+        asked++;
+        if (got != want) {
+            wrong++;
+            System.out.println(call + " answered " + got + ", due is " + want);
+        }
+    }
+
+    /** A refused call: the answer is due, and nothing that can be seen has changed by it. */
+    void refused(PaneLight p, String call, java.util.function.LongSupplier made, long want) {
+        List<Long> before = seen(p);
+        due(call, made.getAsLong(), want);
+        asked++;
+        if (!seen(p).equals(before)) {
+            wrong++;
+            System.out.println(call + " was refused, but changed something");
+        }
+    }
+
+    void end() {
+        System.out.println(asked + " answers, " + wrong + " not as due");
+        if (wrong != 0) {
+            System.exit(1);
+        }
+    }
+
+    static void type(PaneLight p, String text) {
+        for (int i = 0; i < text.length(); i++) {
+            p.type(text.charAt(i));
+        }
+    }
+
+    PaneLight told(String text) {
+        PaneLight p = new PaneLight();
+        type(p, text);
+        asked++;
+        if (p.window() < 0) {
+            wrong++;
+            System.out.println("refused: " + text);
+        }
+        return p;
+    }
+
+    /** Everything that is answered without changing anything. */
+    static List<Long> seen(PaneLight p) {
+        List<Long> all = new ArrayList<>();
+        for (int what = 0; what < 7; what++) {
+            all.add((long) p.count(what));
+            all.add((long) p.now(what));
+        }
+        for (int x = 0; x < 5; x++) {
+            for (int y = 0; y < 4; y++) {
+                for (int what = 0; what < 4; what++) {
+                    all.add((long) p.pane(x, y, what));
+                }
+            }
+        }
+        for (int s = 0; s < 8; s++) {
+            all.add((long) p.sheet(s, 0));
+            all.add((long) p.sheet(s, 1));
+        }
+        all.add((long) p.suspects());
+        all.add(p.trace());
+        return all;
+    }
+}
