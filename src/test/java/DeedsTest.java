@@ -59,7 +59,10 @@ public final class DeedsTest {
         }
         p.lays(0, 0, 0);
         t.due("takes from the first pane", p.takes(0), 0);
-        t.due("may be undone", p.count(4), 5);
+        t.due("takes the other", p.takes(1), 19);
+        t.due("through", p.pane(4, 3, 3), 3);
+        t.due("the box", p.now(3), 3);
+        t.due("may be undone", p.count(4), 6);
     }
 
     private static void breaks() {
@@ -209,6 +212,11 @@ public final class DeedsTest {
         leads(q, 0, 1, 3);
         q.mends(1, 0);
         leads(q, 2, 3, 1);
+        // arms that come together behind, ahead, below, above
+        leads(t.told("g2 3;p0 1 1;"), 3, 2, 5);
+        leads(t.told("g2 3;p1 1 1;"), 3, 2, 5);
+        leads(t.told("g3 2;p1 0 1;"), 3, 2, 5);
+        leads(t.told("g3 2;p1 1 1;"), 3, 2, 5);
         // every PANE unlike those beside it
         PaneLight r = new PaneLight();
         StringBuilder text = new StringBuilder();

@@ -54,6 +54,13 @@ public final class LightTest {
         t.due("lost", q.light(0, 0, 2), 0);
         t.due("behind the mirror", q.light(1, 0, 0), 0);
         t.due("behind the mirror", q.light(2, 0, 0), 0);
+        // by the MIRROR in another SEASON
+        PaneLight s = t.told("g2 2;p1 0 2;p1 1 4;m1;y3;");
+        t.due("row 3", s.light(0, 3, 0), 7);
+        s.moves(2, 3);
+        t.due("row 3", s.light(0, 3, 2), 2);
+        t.due("row 4", s.light(0, 4, 2), 4);
+        t.due("row 0", s.light(0, 0, 2), 0);
         // 12 is none, 11 is one
         PaneLight r = t.told("g5 1;p4 0 2;m11;");
         t.due("back from 11", r.light(10, 0, 7), 7);
@@ -109,6 +116,7 @@ public final class LightTest {
         t.due("never 3", p.when(2, 0, 3), Check.NONE);
         t.due("at the last hour", p.when(7, 0, 1), 5);
         t.due("at the last hour alone", t.told("g1 1;").when(7, 0, 7), 7);
+        t.due("behind the last hour", t.told("g1 1;").when(8, 0, 7), Check.NONE);
         t.due("never", p.when(11, 6, 7), Check.NONE);
         t.due("dark at once", p.when(11, 6, 0), 0);
         int[][] wrong = {{-1, 0, 0}, {12, 0, 0}, {0, -1, 0}, {0, 7, 0}, {0, 0, -1}, {0, 0, 8}};
@@ -149,6 +157,10 @@ public final class LightTest {
         mixed(p, 1, 0, 0, 0, 0);
         mixed(p, 1, 1, Check.NONE, 0, 0);
         t.due("nothing was laid", p.now(3), 15);
+        // all of the BOX before the one, before the other (at HOUR 1, PANE 0 comes to column 0 by a MIRROR at 1)
+        PaneLight q = t.told("g1 1;m1;s5;s6;s3;");
+        mixed(q, 0, 0, 3, 0b111, 0);
+        mixedAt(q, 0, 1, 0, 3, 0, 0b111);
     }
 
     private static void mixCounts() {
@@ -223,6 +235,11 @@ public final class LightTest {
         way(r, 6, 1, 6, 1, 43, 50);
         way(r, 7, 1, 6, 1, 50, 50);
         way(r, 7, 0, 6, 1, 49, 50);
+        // back with the light that a MIRROR throws back
+        way(t.told("g1 1;m4;"), 0, 0, 0, 7, 0, 7, 14, 21, 21, 14, 7, 0);
+        // to the first row, to the last row, as their tiles are lower than those of the other PANE
+        way(t.told("g2 2;p0 1 0;p1 0 0;"), 1, 1, 0, 7, 8, 7, 14, 21, 28, 35, 42, 49);
+        way(t.told("g2 4;y3;p0 0 0;p0 1 0;p0 2 0;p1 0 0;p1 1 0;p1 3 0;"), 1, 5, 0, 7, 12, 13, 20, 27, 34, 41, 48, 55);
         // not over the edge of a column: tiles 6 and 7 are not beside one another
         PaneLight s = t.told("g2 4;y3;p0 0 0;p0 1 0;p0 2 0;p1 0 0;p1 1 0;p1 2 0;p1 3 0;");
         way(s, 0, 6, 0, 7, 6, 13, 20, 27, 34, 41, 48, 55);

@@ -78,6 +78,11 @@ public final class SeenTest {
         p.saw(1, 1, 0, 3);
         t.due("all but that and the broken one", p.suspects(), all & ~2 & ~32);
         t.due("nothing is changed", p.now(2), 2);
+        p.forget();
+        p.saw(11, 6, 7, 0);
+        t.due("where nothing falls", p.suspects(), all & ~2);
+        p.saw(11, 6, 7, 1);
+        t.due("where nothing can fall", p.suspects(), 0);
     }
 
     private static void suspectsByMirror() {
@@ -132,6 +137,8 @@ public final class SeenTest {
         t.due("the one that is not clear", p.look(), 8 * 1);
         PaneLight q = t.told("g2 1;p0 0 7;p1 0 2;");
         t.due("at the first hour on its tile", q.look(), 8 * 7);
+        t.due("on the last column that can be", t.told("p4 3 0;y3;").look(), 8 * (7 * 4 + 6));
+        t.due("not ahead of its hour", t.told("g1 1;p0 0 2;m1;").look(), 0);
         // at HOUR 1, column 1 has both by the MIRROR at 2: that tells two from the other
         PaneLight r = t.told("g2 1;p0 0 1;p1 0 2;m2;");
         t.due("two of three or one", r.look(), 0);

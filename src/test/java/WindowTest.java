@@ -8,6 +8,7 @@ public final class WindowTest {
         clear();
         windowTells();
         windowForgets();
+        windowLeavesNothing();
         faults();
         faultsChangeNothing();
         pane();
@@ -118,6 +119,46 @@ public final class WindowTest {
         t.due("back(1) read anew", p.back(1), Check.STATE);
         t.due("suspects read anew", p.suspects(), (1 << 21) - 1);
         t.due("trace stays", p.trace(), 11);
+        p.breaks(0, 0);
+        t.due("mirror behind a deed", p.now(0), 12);
+        t.due("undone", p.undo(), 0);
+        t.due("mirror then", p.now(0), 12);
+    }
+
+    /** Nothing is left of any text that was read, or refused, or cleared earlier. */
+    private static void windowLeavesNothing() {
+        PaneLight p = t.told("g2 3;p0 0 1;s2;s4;m4;y1;");
+        for (int n = 0; n < 11; n++) {
+            p.breaks(1, 1);
+            p.lays(0, 0, 0);
+            p.mends(1, 1);
+            p.takes(0);
+        }
+        p.breaks(1, 1);
+        p.lays(0, 0, 0);
+        for (int n = 0; n < 5; n++) {
+            p.moves(7, 2);
+            p.moves(8, 2);
+        }
+        java.util.List<Long> fresh = Check.seen(new PaneLight());
+        for (int n = 0; n < 3; n++) {
+            t.due("an empty text", p.window(), 0);
+            t.due("all as at first", Check.seen(p).equals(fresh) ? 1 : 0, 1);
+        }
+        Check.type(p, "g3 3;p1 1 2;s1;s1;m2;y2;!");
+        t.due("refused", p.window(), -10 - 24);
+        p.clear();
+        t.due("an empty text", p.window(), 0);
+        t.due("all as at first", Check.seen(p).equals(fresh) ? 1 : 0, 1);
+        String[] longer = {"s12", "s1;ss", "g1 1;  "};
+        for (String text : longer) {
+            Check.type(p, text);
+            p.clear();
+            Check.type(p, text.substring(0, text.length() - 1));
+            int ends = text.charAt(0) == 'g' ? 1 : -10 - (text.length() - 1);
+            t.due("window of '" + text + "' less its last", p.window(), ends);
+            p.clear();
+        }
     }
 
     private static void faults() {
@@ -125,6 +166,10 @@ public final class WindowTest {
         fault("x", 0);
         fault("gg1 1;", 0);
         fault("pg", 0);
+        fault("gz", 0);
+        fault("ga", 0);
+        fault("a", 0);
+        fault("z", 0);
         fault(" 1", 1);
         fault(";", 0);
         fault("s1;;", 3);
