@@ -1,11 +1,12 @@
 import java.util.ArrayList;
+import java.util.Arrays;
 import java.util.List;
+import java.util.function.LongSupplier;
+import java.util.function.ToLongFunction;
 
 /** What the tests share: answers that are due, windows told by a text, and all of an object that can be seen. */
 final class Check {
     static final int BAD = PaneLight.BAD, STATE = PaneLight.STATE, FULL = PaneLight.FULL, NONE = PaneLight.NONE;
-    /** Numbers that are as told nowhere. */
-    static final int[] FAR = {Integer.MIN_VALUE, -1000, 1000, Integer.MAX_VALUE};
 
     private int asked;
     private int wrong;
@@ -19,13 +20,26 @@ final class Check {
     }
 
     /** A refused call: the answer is due, and nothing that can be seen has changed by it. */
-    void refused(PaneLight p, String call, java.util.function.LongSupplier made, long want) {
+    void refused(PaneLight p, String call, LongSupplier made, long want) {
         List<Long> before = seen(p);
         due(call, made.getAsLong(), want);
         asked++;
         if (!seen(p).equals(before)) {
             wrong++;
             System.out.println(call + " was refused, but changed something");
+        }
+    }
+
+    /** Each number in turn below its least, above its greatest and far off, the others being at their least: all refused. */
+    void outOfBounds(PaneLight p, String name, ToLongFunction<int[]> call, long want, int... leastAndMost) {
+        for (int i = 0; i < leastAndMost.length / 2; i++) {
+            for (int off : new int[] {leastAndMost[2 * i] - 1, leastAndMost[2 * i + 1] + 1, -1000, 1000, Integer.MIN_VALUE, Integer.MAX_VALUE}) {
+                int[] numbers = new int[leastAndMost.length / 2];
+                for (int j = 0; j < numbers.length; j++) {
+                    numbers[j] = j == i ? off : leastAndMost[2 * j];
+                }
+                refused(p, name + Arrays.toString(numbers), () -> call.applyAsLong(numbers), want);
+            }
         }
     }
 

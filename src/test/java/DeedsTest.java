@@ -26,18 +26,9 @@ public final class DeedsTest {
         t.refused(p, "laid elsewhere already", () -> p.lays(0, 1, 1), Check.STATE);
         p.breaks(1, 0);
         t.refused(p, "before a broken pane", () -> p.lays(4, 1, 0), Check.STATE);
-        t.refused(p, "no such sheet", () -> p.lays(8, 0, 1), Check.BAD);
-        t.refused(p, "no such sheet", () -> p.lays(-1, 0, 1), Check.BAD);
         t.refused(p, "no such sheet, and a broken pane", () -> p.lays(8, 1, 0), Check.BAD);
         t.refused(p, "no such pane, and a laid sheet", () -> p.lays(0, 2, 0), Check.BAD);
-        t.refused(p, "no such pane", () -> p.lays(4, 0, 2), Check.BAD);
-        t.refused(p, "no such pane", () -> p.lays(4, -1, 0), Check.BAD);
-        t.refused(p, "no such pane", () -> p.lays(4, 0, -1), Check.BAD);
-        for (int far : Check.FAR) {
-            t.due("lays far off", p.lays(far, 0, 0), Check.BAD);
-            t.due("lays far off", p.lays(4, far, 0), Check.BAD);
-            t.due("lays far off", p.lays(4, 0, far), Check.BAD);
-        }
+        t.outOfBounds(p, "lays", w -> p.lays(w[0], w[1], w[2]), Check.BAD, 0, 7, 0, 1, 0, 1);
         t.due("lays elsewhere", p.lays(4, 1, 1), 4);
         t.due("the box", p.now(3), 0b11100010);
         t.due("may be undone", p.count(4), 5);
@@ -52,11 +43,7 @@ public final class DeedsTest {
         t.due("through", p.pane(4, 3, 3), 2);
         t.due("sheets", p.pane(4, 3, 2), 2);
         t.refused(p, "takes from the box", () -> p.takes(0), Check.STATE);
-        t.refused(p, "no such sheet", () -> p.takes(2), Check.BAD);
-        t.refused(p, "no such sheet", () -> p.takes(-1), Check.BAD);
-        for (int far : Check.FAR) {
-            t.due("takes far off", p.takes(far), Check.BAD);
-        }
+        t.outOfBounds(p, "takes", w -> p.takes(w[0]), Check.BAD, 0, 1);
         p.lays(0, 0, 0);
         t.due("takes from the first pane", p.takes(0), 0);
         t.due("takes the other", p.takes(1), 19);
@@ -77,16 +64,9 @@ public final class DeedsTest {
         t.due("breaks one without sheets", p.breaks(0, 0), 0);
         t.due("broken", p.now(2), 1 << 5 | 1);
         t.refused(p, "breaks again", () -> p.breaks(1, 1), Check.STATE);
-        t.refused(p, "no such pane", () -> p.breaks(3, 0), Check.BAD);
-        t.refused(p, "no such pane", () -> p.breaks(0, 3), Check.BAD);
-        t.refused(p, "no such pane", () -> p.breaks(-1, 0), Check.BAD);
-        t.refused(p, "no such pane", () -> p.breaks(0, -1), Check.BAD);
+        t.outOfBounds(p, "breaks", w -> p.breaks(w[0], w[1]), Check.BAD, 0, 2, 0, 2);
         t.due("sheets elsewhere stay", p.sheet(6, 1), 10);
         t.due("may be undone", p.count(4), 6);
-        for (int far : Check.FAR) {
-            t.due("breaks far off", p.breaks(far, 0), Check.BAD);
-            t.due("breaks far off", p.breaks(0, far), Check.BAD);
-        }
     }
 
     private static void mends() {
@@ -100,15 +80,8 @@ public final class DeedsTest {
         t.due("through", p.pane(2, 2, 3), 4);
         t.due("the other stays broken", p.now(2), 1);
         t.refused(p, "mends again", () -> p.mends(2, 2), Check.STATE);
-        t.refused(p, "no such pane", () -> p.mends(3, 0), Check.BAD);
-        t.refused(p, "no such pane", () -> p.mends(0, 3), Check.BAD);
-        t.refused(p, "no such pane", () -> p.mends(-1, 0), Check.BAD);
-        t.refused(p, "no such pane", () -> p.mends(0, -1), Check.BAD);
+        t.outOfBounds(p, "mends", w -> p.mends(w[0], w[1]), Check.BAD, 0, 2, 0, 2);
         t.due("may be undone", p.count(4), 4);
-        for (int far : Check.FAR) {
-            t.due("mends far off", p.mends(far, 0), Check.BAD);
-            t.due("mends far off", p.mends(0, far), Check.BAD);
-        }
     }
 
     private static void moves() {
@@ -121,14 +94,9 @@ public final class DeedsTest {
         t.due("moves", p.moves(2, 0), 3);
         t.due("moves", p.moves(3, 1), 0);
         t.refused(p, "both are so", () -> p.moves(3, 1), Check.STATE);
-        int[][] wrong = {{0, 0}, {13, 0}, {1, -1}, {1, 4}, {3, 4}, {0, 1}};
-        for (int[] w : wrong) {
-            t.refused(p, "moves" + java.util.Arrays.toString(w), () -> p.moves(w[0], w[1]), Check.BAD);
-        }
-        for (int far : Check.FAR) {
-            t.due("moves far off", p.moves(far, 0), Check.BAD);
-            t.due("moves far off", p.moves(1, far), Check.BAD);
-        }
+        t.outOfBounds(p, "moves", w -> p.moves(w[0], w[1]), Check.BAD, 1, 12, 0, 3);
+        t.refused(p, "one is so, the other can't be", () -> p.moves(3, 4), Check.BAD);
+        t.refused(p, "one is so, the other can't be", () -> p.moves(0, 1), Check.BAD);
         t.due("may be undone", p.count(4), 4);
         t.due("of a narrow window", t.told("g2 4;").moves(1, 0), 0);
         t.due("of a window of three", t.told("g3 4;").moves(1, 0), 4);
@@ -186,11 +154,7 @@ public final class DeedsTest {
         for (int what = 0; what < want.length; what++) {
             t.due("now(" + what + ")", p.now(what), want[what]);
         }
-        t.refused(p, "no such answer", () -> p.now(-1), Check.BAD);
-        t.refused(p, "no such answer", () -> p.now(7), Check.BAD);
-        for (int far : Check.FAR) {
-            t.due("now far off", p.now(far), Check.BAD);
-        }
+        t.outOfBounds(p, "now", w -> p.now(w[0]), Check.BAD, 0, 6);
     }
 
     private static void leadsAndParts() {

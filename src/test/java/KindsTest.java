@@ -29,15 +29,7 @@ public final class KindsTest {
         p.breaks(2, 3);
         p.moves(1, 0);
         marks(p, 2, 3, 7, 7, 4, 14, 15, 8);
-        int[][] wrong = {{-1, 0, 0}, {6, 0, 0}, {0, 3, 0}, {0, 0, 4}, {0, -1, 0}, {0, 0, -1}};
-        for (int[] w : wrong) {
-            t.refused(p, "mark" + java.util.Arrays.toString(w), () -> p.mark(w[0], w[1], w[2]), PaneLight.NO);
-        }
-        for (int far : Check.FAR) {
-            t.due("mark far off", p.mark(far, 0, 0), PaneLight.NO);
-            t.due("mark far off", p.mark(0, far, 0), PaneLight.NO);
-            t.due("mark far off", p.mark(0, 0, far), PaneLight.NO);
-        }
+        t.outOfBounds(p, "mark", w -> p.mark(w[0], w[1], w[2]), PaneLight.NO, 0, 5, 0, 2, 0, 3);
     }
 
     private static void trace() {
@@ -140,10 +132,8 @@ public final class KindsTest {
         p.keep(1);
         t.refused(p, "none was kept as 0", () -> p.back(0), Check.STATE);
         t.due("kept as 1", p.back(1), 1);
-        for (int far : new int[] {-1, 2, Integer.MIN_VALUE, Integer.MAX_VALUE, 32, 33}) {
-            t.refused(p, "keep(" + far + ")", () -> p.keep(far), Check.BAD);
-            t.refused(p, "back(" + far + ")", () -> p.back(far), Check.BAD);
-        }
+        t.outOfBounds(p, "keep", w -> p.keep(w[0]), Check.BAD, 0, 1);
+        t.outOfBounds(p, "back", w -> p.back(w[0]), Check.BAD, 0, 1);
     }
 
     private static void count() {
@@ -156,11 +146,7 @@ public final class KindsTest {
         for (int what = 0; what < want.length; what++) {
             t.due("count(" + what + ")", p.count(what), want[what]);
         }
-        t.refused(p, "no such answer", () -> p.count(-1), Check.BAD);
-        t.refused(p, "no such answer", () -> p.count(6), Check.BAD);
-        for (int far : Check.FAR) {
-            t.due("count far off", p.count(far), Check.BAD);
-        }
+        t.outOfBounds(p, "count", w -> p.count(w[0]), Check.BAD, 0, 5);
     }
 
     /** The MARK of a PANE as each KIND in turn. */

@@ -1,5 +1,3 @@
-import java.util.Arrays;
-
 /** Promises 14 to 20: light, lit, when, mix, child, paint, hail. */
 public final class LightTest {
     private static final Check t = new Check();
@@ -72,15 +70,7 @@ public final class LightTest {
 
     private static void lightIsRefused() {
         PaneLight p = t.told("g2 2;m3;");
-        int[][] wrong = {{-1, 0, 0}, {12, 0, 0}, {0, -1, 0}, {0, 7, 0}, {0, 0, -1}, {0, 0, 8}};
-        for (int[] w : wrong) {
-            t.refused(p, "light" + Arrays.toString(w), () -> p.light(w[0], w[1], w[2]), Check.BAD);
-        }
-        for (int far : Check.FAR) {
-            t.due("light far off", p.light(far, 0, 0), Check.BAD);
-            t.due("light far off", p.light(0, far, 0), Check.BAD);
-            t.due("light far off", p.light(0, 0, far), Check.BAD);
-        }
+        t.outOfBounds(p, "light", w -> p.light(w[0], w[1], w[2]), Check.BAD, 0, 11, 0, 6, 0, 7);
         t.due("the last tile at the last hour", p.light(11, 6, 7), 0);
     }
 
@@ -97,15 +87,7 @@ public final class LightTest {
         t.due("first dark", p.lit(0, 0, 1), 2);
         t.due("first 2", p.lit(2, 0, 1), Check.NONE);
         t.due("the last tile", t.told("y3;").lit(7, 7, 1), 52);
-        int[][] wrong = {{-1, 0, 0}, {8, 0, 0}, {0, -1, 0}, {0, 8, 0}, {0, 0, -1}, {0, 0, 2}};
-        for (int[] w : wrong) {
-            t.refused(p, "lit" + Arrays.toString(w), () -> p.lit(w[0], w[1], w[2]), Check.BAD);
-        }
-        for (int far : Check.FAR) {
-            t.due("lit far off", p.lit(far, 0, 0), Check.BAD);
-            t.due("lit far off", p.lit(0, far, 0), Check.BAD);
-            t.due("lit far off", p.lit(0, 0, far), Check.BAD);
-        }
+        t.outOfBounds(p, "lit", w -> p.lit(w[0], w[1], w[2]), Check.BAD, 0, 7, 0, 7, 0, 1);
     }
 
     private static void when() {
@@ -119,15 +101,7 @@ public final class LightTest {
         t.due("behind the last hour", t.told("g1 1;").when(8, 0, 7), Check.NONE);
         t.due("never", p.when(11, 6, 7), Check.NONE);
         t.due("dark at once", p.when(11, 6, 0), 0);
-        int[][] wrong = {{-1, 0, 0}, {12, 0, 0}, {0, -1, 0}, {0, 7, 0}, {0, 0, -1}, {0, 0, 8}};
-        for (int[] w : wrong) {
-            t.refused(p, "when" + Arrays.toString(w), () -> p.when(w[0], w[1], w[2]), Check.BAD);
-        }
-        for (int far : Check.FAR) {
-            t.due("when far off", p.when(far, 0, 0), Check.BAD);
-            t.due("when far off", p.when(0, far, 0), Check.BAD);
-            t.due("when far off", p.when(0, 0, far), Check.BAD);
-        }
+        t.outOfBounds(p, "when", w -> p.when(w[0], w[1], w[2]), Check.BAD, 0, 11, 0, 6, 0, 7);
     }
 
     private static void mix() {
@@ -201,18 +175,7 @@ public final class LightTest {
 
     private static void mixIsRefused() {
         PaneLight p = t.told("g2 1;m2;s1;");
-        int[][] wrong = {{-1, 0, 0, 0, 0}, {12, 0, 0, 0, 0}, {0, -1, 0, 0, 0}, {0, 7, 0, 0, 0}, {0, 0, -1, 0, 0},
-            {0, 0, 8, 0, 0}, {0, 0, 0, -1, 0}, {0, 0, 0, 8, 0}, {0, 0, 0, 0, -1}, {0, 0, 0, 0, 3}};
-        for (int[] w : wrong) {
-            t.refused(p, "mix" + Arrays.toString(w), () -> p.mix(w[0], w[1], w[2], w[3], w[4]), Check.BAD);
-        }
-        for (int far : Check.FAR) {
-            for (int i = 0; i < 5; i++) {
-                int[] w = new int[5];
-                w[i] = far;
-                t.due("mix" + Arrays.toString(w), p.mix(w[0], w[1], w[2], w[3], w[4]), Check.BAD);
-            }
-        }
+        t.outOfBounds(p, "mix", w -> p.mix(w[0], w[1], w[2], w[3], w[4]), Check.BAD, 0, 11, 0, 6, 0, 7, 0, 7, 0, 2);
     }
 
     private static void child() {
@@ -250,18 +213,7 @@ public final class LightTest {
 
     private static void childIsRefused() {
         PaneLight p = new PaneLight();
-        int[][] wrong = {{-1, 0, 0, 1, 0}, {12, 0, 0, 1, 0}, {0, -1, 0, 1, 0}, {0, 7, 0, 1, 0}, {0, 0, -1, 1, 0},
-            {0, 0, 8, 1, 0}, {0, 0, 0, 0, 0}, {0, 0, 0, 8, 0}, {0, 0, 0, -1, 0}, {0, 0, 0, 1, -2}, {0, 0, 0, 1, 8}};
-        for (int[] w : wrong) {
-            t.refused(p, "child" + Arrays.toString(w), () -> p.child(w[0], w[1], w[2], w[3], w[4]), Check.BAD);
-        }
-        for (int far : Check.FAR) {
-            for (int i = 0; i < 5; i++) {
-                int[] w = {0, 0, 0, 1, 0};
-                w[i] = far;
-                t.due("child" + Arrays.toString(w), p.child(w[0], w[1], w[2], w[3], w[4]), Check.BAD);
-            }
-        }
+        t.outOfBounds(p, "child", w -> p.child(w[0], w[1], w[2], w[3], w[4]), Check.BAD, 0, 11, 0, 6, 0, 7, 1, 7, -1, 7);
     }
 
     private static void paint() {
@@ -285,11 +237,7 @@ public final class LightTest {
         q.breaks(1, 0);
         painted(q, 4, 2, 0);
         t.due("nothing is changed", q.pane(1, 0, 0), 3);
-        t.refused(q, "no such answer", () -> q.paint(-1), Check.BAD);
-        t.refused(q, "no such answer", () -> q.paint(2), Check.BAD);
-        for (int far : Check.FAR) {
-            t.due("paint far off", q.paint(far), Check.BAD);
-        }
+        t.outOfBounds(q, "paint", w -> q.paint(w[0]), Check.BAD, 0, 1);
     }
 
     private static void hail() {
@@ -325,18 +273,7 @@ public final class LightTest {
 
     private static void hailIsRefused() {
         PaneLight p = new PaneLight();
-        int[][] wrong = {{-1, 0, 0, 0, 0}, {12, 0, 0, 0, 0}, {0, -1, 0, 0, 0}, {0, 7, 0, 0, 0}, {0, 0, -1, 0, 0},
-            {0, 0, 8, 0, 0}, {0, 0, 0, -1, 0}, {0, 0, 0, 11, 0}, {0, 0, 0, 0, -1}, {0, 0, 0, 0, 2}};
-        for (int[] w : wrong) {
-            t.refused(p, "hail" + Arrays.toString(w), () -> p.hail(w[0], w[1], w[2], w[3], w[4]), Check.BAD);
-        }
-        for (int far : Check.FAR) {
-            for (int i = 0; i < 5; i++) {
-                int[] w = new int[5];
-                w[i] = far;
-                t.due("hail" + Arrays.toString(w), p.hail(w[0], w[1], w[2], w[3], w[4]), Check.BAD);
-            }
-        }
+        t.outOfBounds(p, "hail", w -> p.hail(w[0], w[1], w[2], w[3], w[4]), Check.BAD, 0, 11, 0, 6, 0, 7, 0, 10, 0, 1);
     }
 
     /** MIX of tile (x, 0) at HOUR 0. */

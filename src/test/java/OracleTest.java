@@ -7,6 +7,7 @@ import java.util.Random;
 /** Runs of drawn calls (the same each time): the class answers all of them as Naive does. */
 public final class OracleTest {
     private static final int RUNS = 1500, CALLS = 512;
+    private static final int[] FAR = {Integer.MIN_VALUE, -1000, 1000, Integer.MAX_VALUE};
     /** Each call as often as it shall be drawn, with the least and the greatest of each number. */
     private static final String[] CALLS_DRAWN = {
         "6 text", "1 clear", "2 window",
@@ -64,7 +65,7 @@ public final class OracleTest {
         int chance = random.nextInt(60);
         if (chance == 0) return least - 1;
         if (chance == 1) return most + 1;
-        if (chance == 2) return Check.FAR[random.nextInt(Check.FAR.length)];
+        if (chance == 2) return FAR[random.nextInt(FAR.length)];
         return least + random.nextInt(most - least + 1);
     }
 

@@ -1,5 +1,3 @@
-import java.util.Arrays;
-
 /** Promises 21 to 25: saw, forget, suspects, glasses, look. */
 public final class SeenTest {
     private static final Check t = new Check();
@@ -16,27 +14,14 @@ public final class SeenTest {
 
     private static void saw() {
         PaneLight p = t.told("g2 2;");
-        int[][] wrong = {{-1, 0, 0, 0}, {12, 0, 0, 0}, {0, -1, 0, 0}, {0, 7, 0, 0}, {0, 0, -1, 0}, {0, 0, 8, 0},
-            {0, 0, 0, -1}, {0, 0, 0, 8}};
-        for (int[] w : wrong) {
-            t.refused(p, "saw" + Arrays.toString(w), () -> p.saw(w[0], w[1], w[2], w[3]), Check.BAD);
-        }
+        t.outOfBounds(p, "saw", w -> p.saw(w[0], w[1], w[2], w[3]), Check.BAD, 0, 11, 0, 6, 0, 7, 0, 7);
         t.due("saw the least", p.saw(0, 0, 0, 0), 1);
         t.due("saw the greatest", p.saw(11, 6, 7, 7), 2);
         for (int n = 3; n <= 6; n++) {
             t.due("saw the same again", p.saw(0, 0, 0, 7), n);
         }
         t.refused(p, "a seventh", () -> p.saw(0, 0, 0, 7), Check.FULL);
-        for (int[] w : wrong) {
-            t.refused(p, "saw" + Arrays.toString(w), () -> p.saw(w[0], w[1], w[2], w[3]), Check.BAD);
-        }
-        for (int far : Check.FAR) {
-            for (int i = 0; i < 4; i++) {
-                int[] w = new int[4];
-                w[i] = far;
-                t.due("saw" + Arrays.toString(w), p.saw(w[0], w[1], w[2], w[3]), Check.BAD);
-            }
-        }
+        t.outOfBounds(p, "saw", w -> p.saw(w[0], w[1], w[2], w[3]), Check.BAD, 0, 11, 0, 6, 0, 7, 0, 7);
         t.due("may not be undone", p.count(4), 0);
     }
 
@@ -120,14 +105,7 @@ public final class SeenTest {
         q.saw(1, 0, 1, 3);
         t.due("with another", q.glasses(0, 0), 1 << 1 | 1 << 3);
         t.due("with another", q.glasses(1, 0), 1 << 2 | 1 << 3);
-        int[][] wrong = {{2, 0}, {0, 1}, {-1, 0}, {0, -1}};
-        for (int[] w : wrong) {
-            t.refused(q, "glasses" + Arrays.toString(w), () -> q.glasses(w[0], w[1]), Check.BAD);
-        }
-        for (int far : Check.FAR) {
-            t.due("glasses far off", q.glasses(far, 0), Check.BAD);
-            t.due("glasses far off", q.glasses(0, far), Check.BAD);
-        }
+        t.outOfBounds(q, "glasses", w -> q.glasses(w[0], w[1]), Check.BAD, 0, 1, 0, 0);
     }
 
     private static void look() {

@@ -42,9 +42,7 @@ public final class WindowTest {
         PaneLight p = new PaneLight();
         t.due("type(0)", p.type(0), 1);
         t.due("type(255)", p.type(255), 2);
-        for (int far : new int[] {-1, 256, Integer.MIN_VALUE, Integer.MAX_VALUE}) {
-            t.refused(p, "type(" + far + ")", () -> p.type(far), Check.BAD);
-        }
+        t.outOfBounds(p, "type", w -> p.type(w[0]), Check.BAD, 0, 255);
         for (int n = 3; n <= 170; n++) {
             t.due("type", p.type(' '), n);
         }
@@ -272,15 +270,7 @@ public final class WindowTest {
         t.due("sheets", p.pane(1, 1, 2), 0);
         t.due("through", p.pane(1, 1, 3), 7);
         t.due("the last pane", p.pane(2, 1, 3), 7);
-        int[][] wrong = {{3, 0, 0}, {0, 2, 0}, {-1, 0, 0}, {0, -1, 0}, {0, 0, -1}, {0, 0, 4}};
-        for (int[] w : wrong) {
-            t.refused(p, "pane" + java.util.Arrays.toString(w), () -> p.pane(w[0], w[1], w[2]), Check.BAD);
-        }
-        for (int far : Check.FAR) {
-            t.due("pane far off", p.pane(far, 0, 0), Check.BAD);
-            t.due("pane far off", p.pane(0, far, 0), Check.BAD);
-            t.due("pane far off", p.pane(0, 0, far), Check.BAD);
-        }
+        t.outOfBounds(p, "pane", w -> p.pane(w[0], w[1], w[2]), Check.BAD, 0, 2, 0, 1, 0, 3);
     }
 
     private static void sheet() {
@@ -296,16 +286,9 @@ public final class WindowTest {
         t.due("before none", p.sheet(1, 1), Check.NONE);
         p.breaks(4, 3);
         t.due("in the box again", p.sheet(7, 1), Check.NONE);
-        t.due("no such sheet", p.sheet(8, 0), Check.BAD);
-        t.due("no such sheet", p.sheet(-1, 0), Check.BAD);
-        t.due("no such answer", p.sheet(0, 2), Check.BAD);
-        t.due("no such answer", p.sheet(0, -1), Check.BAD);
+        t.outOfBounds(p, "sheet", w -> p.sheet(w[0], w[1]), Check.BAD, 0, 7, 0, 1);
         t.due("no sheets at first", new PaneLight().sheet(0, 0), Check.BAD);
         t.due("a sheet less", t.told("s1;").sheet(1, 0), Check.BAD);
-        for (int far : Check.FAR) {
-            t.due("sheet far off", p.sheet(far, 0), Check.BAD);
-            t.due("sheet far off", p.sheet(0, far), Check.BAD);
-        }
     }
 
     private static void items(String text, int want) {
