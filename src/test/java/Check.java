@@ -1,8 +1,5 @@
 import java.util.ArrayList;
-import java.util.Arrays;
 import java.util.List;
-import java.util.function.LongSupplier;
-import java.util.function.ToLongFunction;
 
 /** What the tests share: answers that are due, windows told by a text, and all of an object that can be seen. */
 final class Check {
@@ -16,30 +13,6 @@ final class Check {
         if (got != want) {
             wrong++;
             System.out.println(call + " answered " + got + ", due is " + want);
-        }
-    }
-
-    /** A refused call: the answer is due, and nothing that can be seen has changed by it. */
-    void refused(PaneLight p, String call, LongSupplier made, long want) {
-        List<Long> before = seen(p);
-        due(call, made.getAsLong(), want);
-        asked++;
-        if (!seen(p).equals(before)) {
-            wrong++;
-            System.out.println(call + " was refused, but changed something");
-        }
-    }
-
-    /** Each number in turn below its least, above its greatest and far off, the others being at their least: all refused. */
-    void outOfBounds(PaneLight p, String name, ToLongFunction<int[]> call, long want, int... leastAndMost) {
-        for (int i = 0; i < leastAndMost.length / 2; i++) {
-            for (int off : new int[] {leastAndMost[2 * i] - 1, leastAndMost[2 * i + 1] + 1, -1000, 1000, Integer.MIN_VALUE, Integer.MAX_VALUE}) {
-                int[] numbers = new int[leastAndMost.length / 2];
-                for (int j = 0; j < numbers.length; j++) {
-                    numbers[j] = j == i ? off : leastAndMost[2 * j];
-                }
-                refused(p, name + Arrays.toString(numbers), () -> call.applyAsLong(numbers), want);
-            }
         }
     }
 
@@ -67,7 +40,7 @@ final class Check {
         return p;
     }
 
-    /** Everything that is answered without changing anything. */
+    /** What tells all of an object without changing it, in few calls, as an object may have 512 at most. */
     static List<Long> seen(PaneLight p) {
         List<Long> all = new ArrayList<>();
         for (int what = 0; what < 7; what++) {
@@ -76,14 +49,12 @@ final class Check {
         }
         for (int x = 0; x < 5; x++) {
             for (int y = 0; y < 4; y++) {
-                for (int what = 0; what < 4; what++) {
-                    all.add((long) p.pane(x, y, what));
-                }
+                all.add((long) p.pane(x, y, 0));
+                all.add((long) p.pane(x, y, 2));
             }
         }
         for (int s = 0; s < 8; s++) {
             all.add((long) p.sheet(s, 0));
-            all.add((long) p.sheet(s, 1));
         }
         all.add((long) p.suspects());
         all.add(p.trace());

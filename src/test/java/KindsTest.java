@@ -29,7 +29,6 @@ public final class KindsTest {
         p.breaks(2, 3);
         p.moves(1, 0);
         marks(p, 2, 3, 7, 7, 4, 14, 15, 8);
-        t.outOfBounds(p, "mark", w -> p.mark(w[0], w[1], w[2]), PaneLight.NO, 0, 5, 0, 2, 0, 3);
     }
 
     private static void trace() {
@@ -127,13 +126,11 @@ public final class KindsTest {
     private static void keepIsRefused() {
         PaneLight p = t.told("g2 2;");
         p.breaks(0, 0);
-        t.refused(p, "none was kept", () -> p.back(0), Check.STATE);
-        t.refused(p, "none was kept", () -> p.back(1), Check.STATE);
+        t.due("none was kept", p.back(0), Check.STATE);
+        t.due("none was kept", p.back(1), Check.STATE);
         p.keep(1);
-        t.refused(p, "none was kept as 0", () -> p.back(0), Check.STATE);
+        t.due("none was kept as 0", p.back(0), Check.STATE);
         t.due("kept as 1", p.back(1), 1);
-        t.outOfBounds(p, "keep", w -> p.keep(w[0]), Check.BAD, 0, 1);
-        t.outOfBounds(p, "back", w -> p.back(w[0]), Check.BAD, 0, 1);
     }
 
     private static void count() {
@@ -146,7 +143,6 @@ public final class KindsTest {
         for (int what = 0; what < want.length; what++) {
             t.due("count(" + what + ")", p.count(what), want[what]);
         }
-        t.outOfBounds(p, "count", w -> p.count(w[0]), Check.BAD, 0, 5);
     }
 
     /** The MARK of a PANE as each KIND in turn. */

