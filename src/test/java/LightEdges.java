@@ -231,7 +231,8 @@ final class LightEdges {
         way("told g2 4;y3;p0 0 0;p0 1 0;p0 2 0;p1 0 0;p1 1 0;p1 3 0;", "1 5 0 7", 12, 13, 20, 27, 34, 41, 48, 55);
         // nothing is beside the first column, or the first and the last row, over the edge; asked again when light has moved
         e.run("child 11 0 7 7 -1 = 1", "moves 6 0", "child 0 0 7 7 -1 = 1", "child 0 3 7 7 -1 = 1");
-        e.run("told y3;", "child 11 6 7 7 -1 = 1", "moves 6 0", "child 0 0 7 7 -1 = 1", "moves 6 3", "child 0 6 7 7 -1 = 1", "child 0 3 7 7 -1 = 1");
+        e.run("told y3;", "child 11 6 7 7 -1 = 1", "moves 6 0", "child 0 0 7 7 -1 = 1");
+        e.run("told y3;", "child 11 6 7 7 -1 = 1", "moves 6 3", "child 0 6 7 7 -1 = 1", "child 0 3 7 7 -1 = 1");
         // a corner is not beside: at HOUR 1 it stands in light that is lost at HOUR 2, when (1, 1) or (1, 0) has some
         way("told g3 2;m2;p0 0 0;p1 0 0;p1 1 0;p2 1 0;", "0 0 1 7", 0);
         way("told g3 2;m2;p0 1 0;p1 0 0;p1 1 0;p2 0 0;", "0 1 1 7", 1);
