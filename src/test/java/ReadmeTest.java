@@ -18,7 +18,7 @@ import javax.tools.ToolProvider;
 public final class ReadmeTest {
     private static final Check t = new Check();
     /** A call at a row's start, and its answer behind it, with or without words: "p.undo();   // 4: what may be .." */
-    private static final Pattern CALL = Pattern.compile("(p\\.\\w+\\([^;]*\\));\\s*(?:// (-?\\d+|[A-Z]+)(?::.*)?)?");
+    private static final Pattern CALL = Pattern.compile("(p\\.\\w+\\((?:[^;']|'.')*\\));\\s*(?:// (-?\\d+|[A-Z]+)(?::.*)?)?");
 
     public static void main(String[] args) throws Exception {
         String readme = Files.readString(Path.of("README.md"));
@@ -90,7 +90,7 @@ public final class ReadmeTest {
     private static void wholeFace(String use) {
         for (Method m : PaneLight.class.getDeclaredMethods()) {
             if (Modifier.isPublic(m.getModifiers())) {
-                holds("its use is shown: " + m.getName(), use.contains("p." + m.getName() + "("));
+                holds("its use is shown, with an answer: " + m.getName(), use.contains("\np." + m.getName() + "("));
             }
         }
     }
